@@ -25,6 +25,7 @@ public final class EndTest {
         due("12: linen -1", x.tears(-1), -1);
         due("12: sorrow is no matter", Desk.of("k0000,213;l14").tears(0), 2);
         due("12: a dry one needs one", Desk.of("k0000,0;c00").tears(0), 1);
+        due("12: as wet as can be", Desk.of("k0000,0;c09").tears(0), 0);
         due("12: 9 is too hot", Desk.of("k0000,9;c09").tears(0), -9);
         due("12: 8 is not", Desk.of("k0000,8;c09").tears(0), 0);
         due("12: 8 from 0 on", Desk.of("k0000,8;c00").tears(0), 3);

@@ -161,6 +161,13 @@ public final class RealmTest {
         due("2: heat", x.heat(0), 2);
         due("2: sheets stay", x.cell(2, 0, Desk.INTS), 70000);
         due("2: trace stays", x.trace(), 1);
+        LinenLaw fewer = Desk.of("k9999,000000;c09;c09;c09;c09;c09");
+        Desk.realm(fewer, "k9999,0;c09;c09");
+        due("2: no more linens than there are, laws", fewer.laws(1), 3);
+        due("2: no more linens than there are, weeping", Desk.weep(fewer, 0, 40), 3);
+        due("2: no more linens than there are, lasting", Desk.weep(fewer, 2, 40), 3);
+        due("2: no more linens than there are, keep", fewer.keep(), 3);
+        due("2: no more days than there are", fewer.damp(0, 2), -2);
     }
 
     private static void ofLinen() {

@@ -43,6 +43,7 @@ public final class SheetTest {
         due("22: n 0", x.sheet(1, 0, 0), 1);
         due("22: it has a row", x.cell(1, 0, 1), LOST);
         due("22: it has a row", x.fault(), 2);
+        due("22: it has no cell", x.put(1, 0, 1), -13);
         x.put(0, 3, 7);
         due("22: size", x.sheet(0, 0, -1), -14);
         due("22: as it was", x.cell(0, 3, 2), 7);
