@@ -51,9 +51,12 @@ public final class EndTest {
         due("the most", tearsOf("k0000,888888;c00"), 18);
         due("other weepers' are no matter", tearsOf("k9990,213;l34"), 2);
         DOC.terms("by which it is LAW behind each EVENING;");
-        due("not only behind the last", tearsOf("k0000,20;c02"), 1);
-        due("not only behind the first", tearsOf("k0000,02;c02"), 1);
-        due("not only behind one between", tearsOf("k0000,101;c01"), 1);
+        due("not only behind the last", tearsOf("k0000,80;c00"), 3);
+        due("not only behind the last, where it can't be", tearsOf("k0000,90;c00"), NONE);
+        due("not only behind the first", tearsOf("k0000,08;c01"), 3);
+        due("not only behind the first, where it can't be", tearsOf("k0000,09;c01"), NONE);
+        due("not only behind the ends", tearsOf("k0000,080;c01"), 3);
+        due("not only behind the ends, where it can't be", tearsOf("k0000,090;c01"), NONE);
         due("damp of 0 ahead of the first is no matter", tearsOf("k0000,0;c00"), 1);
         due("each of six", tearsOf("k0000,111111;c06"), 1);
         due("each of six, by none", tearsOf("k0000,111111;c07"), 0);

@@ -226,6 +226,11 @@ public final class ReadingTest {
         dueOdds("k9999,9;c00", 0, 1);
         dueOdds("k9999,8;c09", 1, 1);
         dueOdds("k9999,2222;c05", 11, 16);
+        for (int days = 1; days <= 6; days++) {
+            dueOdds("k9999," + "9".repeat(days) + ";c00", 0, 1);
+            dueOdds("k9999," + "0".repeat(days) + ";c01", 1, 1);
+            dueOdds("k9999," + "9".repeat(days) + ";c01", 1, 1 << days);
+        }
         LinenLaw all = Desk.of("k9999,888888;c09;c08");
         due("the last of six, upper", all.odds(0, 0), 7);
         due("the last of six, lower", all.odds(0, 1), 64);
