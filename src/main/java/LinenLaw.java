@@ -352,6 +352,7 @@ public final class LinenLaw {
         return v >= 0 && v < limit;
     }
 
+    // Every index into a row of numbers goes through these two, so that none is used before it has been looked at.
     private static int at(int[] row, int i) {
         return i >= 0 && i < row.length ? row[i] : 0;
     }

@@ -3,11 +3,18 @@ import java.lang.reflect.Field;
 import java.lang.reflect.Member;
 import java.lang.reflect.Method;
 import java.lang.reflect.Modifier;
+import java.nio.file.Files;
+import java.nio.file.Path;
+import java.util.ArrayList;
 import java.util.HashSet;
+import java.util.List;
 import java.util.Set;
 import java.util.TreeSet;
+import java.util.regex.Matcher;
+import java.util.regex.Pattern;
+import java.util.stream.Collectors;
 
-/** The public face: that of the document and nothing else (LANGUAGE.md, rules 1, 2, 5 and 11). */
+/** The public face: that of the document and nothing else (LANGUAGE.md, rules 1, 2, 5 and 11), told as there. */
 public final class FaceTest {
     private static final Check CHECK = new Check("FaceTest");
     private static final String[] METHODS = {
@@ -20,11 +27,45 @@ public final class FaceTest {
         "int as(int,int)", "int trace()", "int fault()", "int many(int)",
     };
 
-    public static void main(String[] args) throws IllegalAccessException {
+    public static void main(String[] args) throws Exception {
         face();
         constants();
         insides();
+        String document = Files.readString(Path.of("../shared/DOC.md"));
+        String source = Files.readString(Path.of("src/main/java/LinenLaw.java"));
+        declarations(document, source);
+        interfaceLines(document, source);
         CHECK.end();
+    }
+
+    /** The document's lines of the public face stand in the source, in the same order and in the same words. */
+    private static void declarations(String document, String source) {
+        String face = document.split("## The public face\\s+```java\n")[1].split("```")[0];
+        CHECK.due("declarations", open(source), open(face));
+    }
+
+    private static String open(String code) {
+        return Pattern.compile("(?m)^ *(public [^;{\n]*?) ?[;{]$").matcher(code).results()
+            .map(found -> found.group(1)).collect(Collectors.joining("\n"));
+    }
+
+    /** Each line that the interface says stands in the source ahead of just the calls that the document names. */
+    private static void interfaceLines(String document, String source) {
+        Matcher lines = Pattern.compile("(?m)^Ahead of the calls (.*) the interface says: (---- .*)\\.$").matcher(document);
+        List<String> due = new ArrayList<>();
+        while (lines.find()) {
+            due.add("// " + lines.group(2) + ": " + lines.group(1).replace("`", ""));
+        }
+        CHECK.due("lines that the interface says", due.size(), 5);
+        List<String> got = new ArrayList<>();
+        for (String part : source.split("\n    (?=// ----)")) {
+            String calls = Pattern.compile("(?m)^    public (?:int|long) (\\w+)\\(").matcher(part).results()
+                .map(found -> found.group(1)).collect(Collectors.joining(", "));
+            if (!calls.isEmpty()) {
+                got.add(part.substring(0, part.indexOf('\n')) + ": " + calls);
+            }
+        }
+        CHECK.due("what they stand ahead of", String.join("\n", got), String.join("\n", due));
     }
 
     private static void face() {
